@@ -721,8 +721,7 @@ public final class CrowdSimulator {
     private static final class Crowd {
         final State state;
         final Fields fields;
-        /** The agents that had their turn, and those that were pushed, in the tick that runs. */
-        int done;
+        /** The agents that were pushed in the tick that runs. */
         int pushed;
 
         Crowd(State state, Fields fields) {
@@ -883,13 +882,11 @@ public final class CrowdSimulator {
 
         void passTick() {
             state.statistics[TIME]++;
-            done = 0;
             pushed = 0;
             for (int priority = MAX_PRIORITY; priority >= 0; priority--) {
                 for (int agent = 0; agent < AGENTS; agent++) {
                     if (exists(agent) && state.priorities[agent] == priority) {
                         takeTurn(agent);
-                        done |= 1 << agent;
                     }
                 }
             }
@@ -945,8 +942,9 @@ public final class CrowdSimulator {
             }
         }
 
+        /** Priorities do not change in a tick, so an agent with a lower one has its turn still before it. */
         private boolean isPushedAside(int agent, int pusher) {
-            if (state.priorities[agent] >= state.priorities[pusher] || isIn(done | pushed, agent)) {
+            if (state.priorities[agent] >= state.priorities[pusher] || isIn(pushed, agent)) {
                 return false;
             }
             Field field = fields.toward(targetOf(agent), state.costs);

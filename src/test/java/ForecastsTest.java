@@ -11,6 +11,7 @@ public final class ForecastsTest {
         forecastRefused();
         bottleneck();
         bottleneckOfSeveral();
+        bottleneckInTheCorner();
         bottleneckRefused();
         Check.end("ForecastsTest");
     }
@@ -166,6 +167,14 @@ public final class ForecastsTest {
         crowd.setGoal(0, 13, 9);
         crowd.tick(1);
         Check.same("21: the most passes", crowd.bottleneck(), 913);
+    }
+
+    private static void bottleneckInTheCorner() {
+        CrowdSimulator crowd = new CrowdSimulator();
+        crowd.setGoal(0, 0, 0);
+        crowd.add(0, 2, 0, 0);
+        crowd.tick(2);
+        Check.same("21: the first cell", crowd.bottleneck(), 0);
     }
 
     private static void bottleneckRefused() {

@@ -6,6 +6,7 @@ public final class FormationsTest {
     public static void main(String[] args) {
         join();
         joinAgain();
+        agentZeroAsMember();
         joinRefused();
         slots();
         slotsOnWalls();
@@ -51,6 +52,18 @@ public final class FormationsTest {
         Check.same("15: the last member goes", crowd.join(2, 3, 0, 1), 2);
         Check.same("15: no leader any more", crowd.agents(3), 8);
         Check.same("15: so it may join", crowd.join(0, 3, 0, -1), 3);
+    }
+
+    private static void agentZeroAsMember() {
+        CrowdSimulator crowd = five();
+        crowd.leave(1);
+        crowd.leave(2);
+        Check.same("15: agent 0 joins", crowd.join(0, 4, -1, 0), 1);
+        Check.same("15: members", crowd.agents(4), 1);
+        Check.same("15: leaders", crowd.agents(3), 16);
+        Check.same("17: of agent 0", crowd.disorder(4), 7);
+        Check.same("11: its leader goes", crowd.remove(4), 4);
+        Check.same("11: so it is no member", crowd.agents(4), 0);
     }
 
     private static void joinRefused() {

@@ -108,6 +108,9 @@ public final class GridAndGoalsTest {
         crowd.add(7, 7, -1, 0);
         crowd.add(8, 7, -1, 0);
         crowd.remove(1);
+        crowd.add(0, 0, -1, 0);
+        Check.same("3: agent on the first cell", crowd.cell(0, 0, 1), 1);
+        crowd.remove(1);
         Check.same("3: removed agent", crowd.cell(7, 7, 1), -1);
         Check.same("3: agent 2", crowd.cell(8, 7, 1), 2);
         Check.same("3: added agents do not pass", crowd.cell(8, 7, 2), 0);

@@ -10,6 +10,7 @@ public final class JamsTest {
         longJam();
         jam();
         jamFreeCells();
+        jamInTheCorner();
         jamRefused();
         meanDistance();
         density();
@@ -120,6 +121,21 @@ public final class JamsTest {
         crowd.setCell(4, 7, 0);
         crowd.setCell(3, 8, 0);
         Check.same("23: none", crowd.jam(2, 3), 0);
+    }
+
+    private static void jamInTheCorner() {
+        CrowdSimulator crowd = new CrowdSimulator();
+        crowd.setCell(12, 9, 0);
+        crowd.setCell(13, 8, 0);
+        crowd.setGoal(0, 13, 9);
+        crowd.add(0, 1, 0, 0);
+        crowd.add(1, 1, 0, 0);
+        crowd.tick(2);
+        Check.same("23: with the first cell", crowd.jam(0, 3), 5);
+        crowd.add(0, 0, 0, 0);
+        Check.same("23: without it", crowd.jam(0, 3), 4);
+        crowd.tick(2);
+        Check.same("23: with the agent on it", crowd.jam(0, 0), 7);
     }
 
     private static void jamRefused() {

@@ -213,6 +213,11 @@ public final class TicksTest {
         onward.setGoal(1, 9, 5);
         onward.tick(1);
         state("18: to the least distance", onward, 1, 506, 1, 0);
+        CrowdSimulator far = crossing(1);
+        far.setGoal(1, 13, 9);
+        far.tick(1);
+        state("18: to the least of great distances", far, 1, 506, 1, 0);
+        counted("18: pushed far from its target", far, 1, 1, 0, 0);
         CrowdSimulator south = crossing(1);
         south.setGoal(1, 5, 9);
         south.tick(1);

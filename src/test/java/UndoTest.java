@@ -22,7 +22,7 @@ public final class UndoTest {
         crowd.add(0, 0, 0, 9);
         crowd.add(1, 0, 1, 3);
         crowd.add(6, 6, 0, 5);
-        crowd.add(5, 9, 2, 5);
+        crowd.add(5, 7, 2, 5);
         crowd.join(2, 3, 1, 1);
         crowd.setPatience(1);
         crowd.tick(3);
