@@ -30,15 +30,6 @@ public final class AgentsTest {
         return crowd;
     }
 
-    private static CrowdSimulator full() {
-        CrowdSimulator crowd = new CrowdSimulator();
-        for (int i = 0; i < 16; i++) {
-            crowd.add(i % 8, i / 8, -1, i % 10);
-        }
-        crowd.setCell(9, 9, 0);
-        return crowd;
-    }
-
     /** Agent 0 leads 1 and 2, agent 3 leads 4. */
     private static CrowdSimulator formations() {
         CrowdSimulator crowd = new CrowdSimulator();
@@ -116,16 +107,16 @@ public final class AgentsTest {
     }
 
     private static void addToTheFull() {
-        Check.badState("10: a seventeenth", AgentsTest::full, c -> c.add(9, 8, 0, 0));
-        Check.badArgument("10: a seventeenth with a bad goal", AgentsTest::full, c -> c.add(9, 8, 4, 0));
-        CrowdSimulator crowd = full();
+        Check.badState("10: a seventeenth", Scenes::full, c -> c.add(9, 8, 0, 0));
+        Check.badArgument("10: a seventeenth with a bad goal", Scenes::full, c -> c.add(9, 8, 4, 0));
+        CrowdSimulator crowd = Scenes.full();
         Check.same("10: sixteen", crowd.agents(0), 65535);
         crowd.remove(7);
         Check.same("10: the sixteenth again", crowd.add(9, 8, -1, 0), 7);
     }
 
     private static void remove() {
-        CrowdSimulator crowd = full();
+        CrowdSimulator crowd = Scenes.full();
         Check.same("11: of sixteen", crowd.remove(15), 15);
         Check.same("11: of fifteen", crowd.remove(0), 14);
         Check.same("11: who is left", crowd.agents(0), 32766);

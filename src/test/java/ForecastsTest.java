@@ -89,29 +89,12 @@ public final class ForecastsTest {
         Check.same("20: nothing changes", Check.allOf(crowd), Check.allOf(other));
     }
 
-    /**
-     * Agent 0 goes east in the rows 0 and 1, west in row 3, and east in the rows 5 and 6. Each of six
-     * settled agents stands in its way, so that it waits for nine ticks before it goes to the other row.
-     */
-    private static CrowdSimulator heldUp(int x) {
-        CrowdSimulator crowd = Check.onMap("//#############1//1#############///##############");
-        crowd.setGoal(0, 12, 6);
-        crowd.setPatience(9);
-        crowd.add(x, 0, 0, 5);
-        for (int y = 0; y < 6; y += 5) {
-            crowd.add(3, y, -1, 5);
-            crowd.add(7, y + 1, -1, 5);
-            crowd.add(11, y, -1, 5);
-        }
-        return crowd;
-    }
-
     private static void farForecasts() {
-        Check.same("20: past two of the six", heldUp(4).forecast(0), 78);
-        Check.same("20: after 100 ticks", heldUp(2).forecast(0), 100);
-        Check.noElement("20: after 101 ticks", () -> heldUp(1), c -> c.forecast(0));
-        Check.same("20: settled after 100 ticks", settledAfter(heldUp(2), 0), 100);
-        CrowdSimulator crowd = heldUp(1);
+        Check.same("20: past two of the six", Scenes.heldUp(4).forecast(0), 78);
+        Check.same("20: after 100 ticks", Scenes.heldUp(2).forecast(0), 100);
+        Check.noElement("20: after 101 ticks", () -> Scenes.heldUp(1), c -> c.forecast(0));
+        Check.same("20: settled after 100 ticks", settledAfter(Scenes.heldUp(2), 0), 100);
+        CrowdSimulator crowd = Scenes.heldUp(1);
         crowd.tick(1);
         Check.same("20: one tick later", crowd.forecast(0), 100);
         crowd.tick(50);

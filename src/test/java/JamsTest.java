@@ -17,30 +17,19 @@ public final class JamsTest {
         Check.end("JamsTest");
     }
 
-    /** Agents without a way to their goal, so that they wait, on cells told as 100 times the row plus the column. */
-    private static CrowdSimulator waiting(int ticks, int... cells) {
-        CrowdSimulator crowd = Check.onMap("1#/#");
-        crowd.setGoal(0, 0, 0);
-        for (int cell : cells) {
-            crowd.add(cell % 100, cell / 100, 0, 0);
-        }
-        crowd.tick(ticks);
-        return crowd;
-    }
-
     private static void jams() {
-        Check.same("22: no agents", waiting(2).jams(), 0);
-        Check.same("22: one agent", waiting(2, 505).jams(), 0);
-        Check.same("22: a pair", waiting(2, 505, 506).jams(), 1);
-        Check.same("22: one below the other", waiting(2, 505, 605).jams(), 1);
-        Check.same("22: two pairs", waiting(2, 505, 506, 905, 906).jams(), 2);
-        Check.same("22: a pair and one alone", waiting(2, 505, 506, 905).jams(), 1);
+        Check.same("22: no agents", Scenes.waiting(2).jams(), 0);
+        Check.same("22: one agent", Scenes.waiting(2, 505).jams(), 0);
+        Check.same("22: a pair", Scenes.waiting(2, 505, 506).jams(), 1);
+        Check.same("22: one below the other", Scenes.waiting(2, 505, 605).jams(), 1);
+        Check.same("22: two pairs", Scenes.waiting(2, 505, 506, 905, 906).jams(), 2);
+        Check.same("22: a pair and one alone", Scenes.waiting(2, 505, 506, 905).jams(), 1);
     }
 
     private static void jamsByWaits() {
-        Check.same("22: a wait of 1", waiting(1, 505, 506).jams(), 0);
-        Check.same("22: a long wait", waiting(50, 505, 506).jams(), 1);
-        CrowdSimulator crowd = waiting(2, 505, 507);
+        Check.same("22: a wait of 1", Scenes.waiting(1, 505, 506).jams(), 0);
+        Check.same("22: a long wait", Scenes.waiting(50, 505, 506).jams(), 1);
+        CrowdSimulator crowd = Scenes.waiting(2, 505, 507);
         crowd.add(6, 5, 0, 0);
         Check.same("22: one between them that is not stuck", crowd.jams(), 0);
         crowd.tick(1);
@@ -52,7 +41,7 @@ public final class JamsTest {
         Check.same("22: settled with their waits", crowd.jams(), 1);
         crowd.tick(1);
         Check.same("22: settled without waits", crowd.jams(), 0);
-        CrowdSimulator other = waiting(2, 505, 506);
+        CrowdSimulator other = Scenes.waiting(2, 505, 506);
         other.remove(0);
         Check.same("22: one removed", other.jams(), 0);
         other.undo();
@@ -60,11 +49,11 @@ public final class JamsTest {
     }
 
     private static void jamsByNeighborhood() {
-        Check.same("22: corners do not touch", waiting(2, 505, 606).jams(), 0);
-        Check.same("22: rows do not go on in the next", waiting(2, 513, 600).jams(), 0);
-        Check.same("22: the grid has an end", waiting(2, 205, 905).jams(), 0);
-        Check.same("22: a bend", waiting(2, 505, 606, 506).jam(0, 0), 7);
-        Check.same("22: pairs that touch", waiting(2, 505, 508, 506, 507).jam(0, 0), 15);
+        Check.same("22: corners do not touch", Scenes.waiting(2, 505, 606).jams(), 0);
+        Check.same("22: rows do not go on in the next", Scenes.waiting(2, 513, 600).jams(), 0);
+        Check.same("22: the grid has an end", Scenes.waiting(2, 205, 905).jams(), 0);
+        Check.same("22: a bend", Scenes.waiting(2, 505, 606, 506).jam(0, 0), 7);
+        Check.same("22: pairs that touch", Scenes.waiting(2, 505, 508, 506, 507).jam(0, 0), 15);
     }
 
     /** Agents 0 and 9 are the ends of a chain of 16, whose numbers go up and down on the way. */
@@ -74,7 +63,7 @@ public final class JamsTest {
             int step = i * 7 % 16;
             chain[i] = step < 14 ? 300 + step : 413 + 100 * (step - 14);
         }
-        CrowdSimulator crowd = waiting(2, chain);
+        CrowdSimulator crowd = Scenes.waiting(2, chain);
         Check.same("22: a chain", crowd.jams(), 1);
         Check.same("23: all agents", crowd.jam(0, 0), 65535);
         Check.same("23: sixteen", crowd.jam(0, 1), 16);
@@ -82,7 +71,7 @@ public final class JamsTest {
     }
 
     private static CrowdSimulator pairs() {
-        CrowdSimulator crowd = waiting(2, 505, 808, 702, 506, 703, 809);
+        CrowdSimulator crowd = Scenes.waiting(2, 505, 808, 702, 506, 703, 809);
         crowd.add(13, 0, -1, 0);
         crowd.setCell(2, 6, 0);
         return crowd;
@@ -108,10 +97,10 @@ public final class JamsTest {
     }
 
     private static void jamFreeCells() {
-        Check.same("23: round a pair", waiting(2, 505, 506).jam(0, 3), 6);
-        Check.same("23: cells counted once", waiting(2, 505, 506, 605).jam(0, 3), 7);
-        Check.same("23: on the edge", waiting(2, 913, 813).jam(0, 3), 3);
-        Check.same("23: in a row's edge", waiting(2, 905, 906).jam(0, 3), 4);
+        Check.same("23: round a pair", Scenes.waiting(2, 505, 506).jam(0, 3), 6);
+        Check.same("23: cells counted once", Scenes.waiting(2, 505, 506, 605).jam(0, 3), 7);
+        Check.same("23: on the edge", Scenes.waiting(2, 913, 813).jam(0, 3), 3);
+        Check.same("23: in a row's edge", Scenes.waiting(2, 905, 906).jam(0, 3), 4);
         CrowdSimulator crowd = pairs();
         Check.same("23: without a wall", crowd.jam(2, 3), 5);
         crowd.add(2, 8, -1, 0);
@@ -146,7 +135,7 @@ public final class JamsTest {
         for (int what : new int[] {-1, 4, LOW, HIGH}) {
             Check.badArgument("23: what " + what, JamsTest::pairs, c -> c.jam(0, what));
         }
-        Check.outOfBounds("23: no jams", () -> waiting(2, 505), c -> c.jam(0, 0));
+        Check.outOfBounds("23: no jams", () -> Scenes.waiting(2, 505), c -> c.jam(0, 0));
     }
 
     private static CrowdSimulator idle() {

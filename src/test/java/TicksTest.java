@@ -2,8 +2,6 @@
 public final class TicksTest {
     private static final int LOW = Integer.MIN_VALUE;
     private static final int HIGH = Integer.MAX_VALUE;
-    /** A way of 14 cells in row 0, walled off from the rest. */
-    private static final String CORRIDOR = "/##############";
 
     public static void main(String[] args) {
         time();
@@ -30,10 +28,6 @@ public final class TicksTest {
         Check.end("TicksTest");
     }
 
-    private static CrowdSimulator corridor() {
-        return Check.onMap(CORRIDOR);
-    }
-
     private static void state(String what, CrowdSimulator crowd, int agent, int... placeHeadingWait) {
         Check.same(what + ": place of " + agent, Check.placeOf(crowd, agent), placeHeadingWait[0]);
         Check.same(what + ": heading of " + agent, crowd.agent(agent, 4), placeHeadingWait[1]);
@@ -56,21 +50,21 @@ public final class TicksTest {
     }
 
     private static void orderOfTurns() {
-        CrowdSimulator equal = corridor();
+        CrowdSimulator equal = Scenes.corridor();
         equal.setGoal(0, 1, 0);
         equal.add(2, 0, 0, 4);
         equal.add(0, 0, 0, 4);
         equal.tick(1);
         state("18: the lower number first", equal, 0, 1, 3, 0);
         state("18: the higher number then", equal, 1, 0, 0, 1);
-        CrowdSimulator unequal = corridor();
+        CrowdSimulator unequal = Scenes.corridor();
         unequal.setGoal(0, 1, 0);
         unequal.add(2, 0, 0, 4);
         unequal.add(0, 0, 0, 5);
         unequal.tick(1);
         state("18: the higher priority first", unequal, 1, 1, 1, 0);
         state("18: the lower priority then", unequal, 0, 2, 0, 1);
-        CrowdSimulator row = corridor();
+        CrowdSimulator row = Scenes.corridor();
         row.setGoal(0, 13, 0);
         row.add(0, 0, 0, 0);
         row.add(1, 0, 0, 9);
@@ -149,7 +143,7 @@ public final class TicksTest {
     }
 
     private static void pushing() {
-        CrowdSimulator crowd = corridor();
+        CrowdSimulator crowd = Scenes.corridor();
         crowd.setGoal(0, 13, 0);
         crowd.add(3, 0, 0, 2);
         crowd.add(4, 0, -1, 1);
@@ -252,7 +246,7 @@ public final class TicksTest {
 
     private static void whoIsNotPushed() {
         for (int priority = 5; priority < 7; priority++) {
-            CrowdSimulator crowd = corridor();
+            CrowdSimulator crowd = Scenes.corridor();
             crowd.setGoal(0, 13, 0);
             crowd.add(3, 0, 0, 5);
             crowd.add(4, 0, -1, priority);
@@ -293,7 +287,7 @@ public final class TicksTest {
         counted("18: one move, one push", crowd, 1, 1, 0, 0);
         crowd.tick(1);
         state("18: but in the next tick", crowd, 1, 305, 0, 0);
-        CrowdSimulator done = corridor();
+        CrowdSimulator done = Scenes.corridor();
         done.setGoal(0, 13, 0);
         done.setGoal(1, 0, 0);
         done.add(5, 0, 0, 3);
@@ -335,7 +329,7 @@ public final class TicksTest {
         state("18: the pushed leader", crowd, 0, 405, 0, 0);
         state("18: its pushing member", crowd, 1, 505, 1, 0);
         Check.same("18: the slot has moved", Check.targetOf(crowd, 1), 406);
-        CrowdSimulator turned = corridor();
+        CrowdSimulator turned = Scenes.corridor();
         turned.add(5, 0, -1, 0);
         turned.add(4, 0, -1, 5);
         turned.join(1, 0, 3, 0);
@@ -386,7 +380,7 @@ public final class TicksTest {
     /** The only free neighbor is behind the agent: its distance is more by the cost of the agent's cell. */
     private static void detoursAreNotTooLong() {
         for (int cost = 1; cost < 4; cost++) {
-            CrowdSimulator crowd = corridor();
+            CrowdSimulator crowd = Scenes.corridor();
             crowd.setPatience(0);
             crowd.setCell(1, 0, cost);
             crowd.setGoal(0, 13, 0);
@@ -401,7 +395,7 @@ public final class TicksTest {
 
     private static void patience() {
         for (int patience = 0; patience < 10; patience++) {
-            CrowdSimulator crowd = corridor();
+            CrowdSimulator crowd = Scenes.corridor();
             crowd.setPatience(patience);
             crowd.setGoal(0, 13, 0);
             crowd.add(1, 0, 0, 3);
@@ -448,7 +442,7 @@ public final class TicksTest {
             Check.same("18: its slot", Check.targetOf(crowd, 1), 505);
             Check.same("18: moves with priority " + priority, crowd.statistic(1), priority == 0 ? 2 : 1);
         }
-        CrowdSimulator wall = corridor();
+        CrowdSimulator wall = Scenes.corridor();
         wall.add(3, 0, -1, 1);
         wall.add(5, 0, -1, 1);
         wall.join(1, 0, 0, 1);
@@ -458,7 +452,7 @@ public final class TicksTest {
     }
 
     private static void statistic() {
-        CrowdSimulator crowd = corridor();
+        CrowdSimulator crowd = Scenes.corridor();
         crowd.setGoal(0, 5, 0);
         crowd.setPatience(1);
         crowd.add(0, 0, 0, 5);

@@ -4,6 +4,7 @@ import java.util.NoSuchElementException;
 final class Check {
     private static int checked = 0;
     private static int wrong = 0;
+    private static String sentence = "";
 
     private Check() {
     }
@@ -15,6 +16,11 @@ final class Check {
 
     interface Call {
         void on(CrowdSimulator crowd);
+    }
+
+    /** The words of the document that the answers after this are due by; they are told with each wrong one. */
+    static void sentence(String words) {
+        sentence = " by: " + words;
     }
 
     static void same(String what, long got, long due) {
@@ -33,7 +39,7 @@ final class Check {
         checked++;
         if (!isDue) {
             wrong++;
-            System.out.println(what + " answered " + got + ", due is " + due);
+            System.out.println(what + " answered " + got + ", due is " + due + sentence);
         }
     }
 
@@ -111,8 +117,8 @@ final class Check {
     }
 
     /**
-     * All that tells of what an object holds, in some 350 calls, for the object is then used up: the
-     * last ones are undo until there is nothing to take back, and restore.
+     * All that tells of what an object holds, in 300 calls and nine more for each agent, for the object
+     * is then used up: the last ones are undo until there is nothing to take back, restore and readMap.
      */
     static String allOf(CrowdSimulator crowd) {
         StringBuilder all = new StringBuilder();
@@ -132,7 +138,16 @@ final class Check {
         for (int change = 0; change < changes; change++) {
             all.append(" u").append(crowd.undo()).append(',').append(crowd.agents(0));
         }
-        return all.append(' ').append(thrownBy(() -> crowd.restore())).append(crowd.agents(0)).toString();
+        all.append(' ').append(thrownBy(() -> crowd.restore())).append(crowd.agents(0));
+        addBuffer(crowd, all);
+        return all.toString();
+    }
+
+    private static void addBuffer(CrowdSimulator crowd, StringBuilder all) {
+        all.append(" b");
+        String full = thrownBy(() -> all.append(crowd.feed('1')));
+        String refused = thrownBy(() -> all.append(',').append(crowd.readMap()));
+        all.append(full).append(refused);
     }
 
     private static void addGoal(CrowdSimulator crowd, int goal, StringBuilder all) {
