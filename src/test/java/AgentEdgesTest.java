@@ -195,15 +195,10 @@ public final class AgentEdgesTest {
         Check.same("11: not twice", Check.thrownBy(() -> crowd.remove(15)), "IndexOutOfBoundsException");
     }
 
-    /** Agent 0 leads 1 and 2, agent 3 leads 4. */
+    /** Agent 0 leads 1 and 2, agent 3 leads 4, agent 5 does neither. */
     private static CrowdSimulator formations() {
-        CrowdSimulator crowd = new CrowdSimulator();
-        for (int i = 0; i < 6; i++) {
-            crowd.add(2 * i, 4, -1, 0);
-        }
-        crowd.join(1, 0, 1, 0);
-        crowd.join(2, 0, 0, 1);
-        crowd.join(4, 3, -1, 0);
+        CrowdSimulator crowd = Scenes.formations();
+        crowd.add(10, 4, -1, 0);
         return crowd;
     }
 

@@ -30,18 +30,6 @@ public final class AgentsTest {
         return crowd;
     }
 
-    /** Agent 0 leads 1 and 2, agent 3 leads 4. */
-    private static CrowdSimulator formations() {
-        CrowdSimulator crowd = new CrowdSimulator();
-        for (int i = 0; i < 5; i++) {
-            crowd.add(2 * i, 4, -1, 0);
-        }
-        crowd.join(1, 0, 1, 0);
-        crowd.join(2, 0, 0, 1);
-        crowd.join(4, 3, -1, 0);
-        return crowd;
-    }
-
     private static void add() {
         CrowdSimulator crowd = new CrowdSimulator();
         Check.same("10: the first", crowd.add(13, 9, 3, 9), 0);
@@ -62,7 +50,7 @@ public final class AgentsTest {
     }
 
     private static void addAfterRemove() {
-        CrowdSimulator crowd = formations();
+        CrowdSimulator crowd = Scenes.formations();
         crowd.setGoal(0, 13, 9);
         crowd.change(1, true, 0);
         crowd.leave(1);
@@ -129,7 +117,7 @@ public final class AgentsTest {
     }
 
     private static void removeFromFormation() {
-        CrowdSimulator crowd = formations();
+        CrowdSimulator crowd = Scenes.formations();
         crowd.remove(1);
         Check.same("11: one of two members", crowd.agents(3), 9);
         crowd.remove(2);
@@ -139,7 +127,7 @@ public final class AgentsTest {
         Check.same("11: its member", crowd.agents(4), 0);
         Check.same("11: its member's leader", crowd.agent(4, 6), -1);
         Check.same("11: its member's target", crowd.agent(4, 7), -1);
-        CrowdSimulator other = formations();
+        CrowdSimulator other = Scenes.formations();
         other.remove(0);
         Check.same("11: the other formation stays", other.agents(3), 8);
         Check.same("11: the other member stays", other.agents(4), 16);
@@ -244,7 +232,7 @@ public final class AgentsTest {
     }
 
     private static void agents() {
-        CrowdSimulator crowd = formations();
+        CrowdSimulator crowd = Scenes.formations();
         crowd.add(13, 0, 0, 0);
         crowd.add(13, 1, 1, 0);
         crowd.remove(1);

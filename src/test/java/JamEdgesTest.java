@@ -11,6 +11,7 @@ public final class JamEdgesTest {
         lastAgentAsLink();
         largestSets();
         neighboringCells();
+        besidesTheStuck();
         lowestAgents();
         waitsAsTheyAreNow();
         noSuchJam();
@@ -138,6 +139,17 @@ public final class JamEdgesTest {
         for (int[] pair : beside) {
             Check.same("22: " + pair[0] + " and " + pair[1], Scenes.waiting(2, pair).jams(), 1);
         }
+    }
+
+    private static void besidesTheStuck() {
+        Check.sentence("A jam is a largest set of at least 2 stuck agents");
+        CrowdSimulator crowd = Scenes.waiting(2, 505, 506, 507);
+        crowd.change(0, true, -1);
+        crowd.tick(1);
+        Check.same("22: a pair beside agent 0, who is not stuck", crowd.jams(), 1);
+        Check.same("23: the pair alone", crowd.jam(0, 0), 2 + 4);
+        crowd.remove(2);
+        Check.same("22: one beside agent 0, who is not stuck", crowd.jams(), 0);
     }
 
     private static void lowestAgents() {

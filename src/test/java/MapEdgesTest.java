@@ -78,7 +78,7 @@ public final class MapEdgesTest {
 
     private static void emptyAfterwards() {
         Check.sentence("The buffer is empty afterwards, also after an error or an exception.");
-        CrowdSimulator crowd = inhabited();
+        CrowdSimulator crowd = Scenes.inhabited();
         Check.same("27: read", Check.read(crowd, "55"), 2);
         Check.same("27: after a text", crowd.feed('5'), 1);
         Check.same("27: an error", Check.read(crowd, "5x5"), -102);
@@ -169,27 +169,13 @@ public final class MapEdgesTest {
         Check.same("27: alone", Check.read(new CrowdSimulator(), ":"), -100);
     }
 
-    /** An agent on (2, 1) and a goal on (3, 2). */
-    private static CrowdSimulator inhabited() {
-        CrowdSimulator crowd = Check.onMap("999");
-        crowd.add(2, 1, -1, 0);
-        crowd.setGoal(0, 3, 2);
-        return crowd;
-    }
-
-    private static CrowdSimulator inhabitedAndFed(String text) {
-        CrowdSimulator crowd = inhabited();
-        Check.feed(crowd, text);
-        return crowd;
-    }
-
     private static void errorsChangeNothing() {
         Check.sentence("A method that throws an exception or returns an error code leaves the state unchanged, unless"
             + " its description says otherwise.");
         for (String text : new String[] {"x", "555x", "555/55/555x", ROW + "1", "5/////////5/", "#####0"}) {
-            CrowdSimulator crowd = inhabitedAndFed(text);
+            CrowdSimulator crowd = Scenes.inhabitedAndFed(text);
             Check.same("27: an error by " + text, crowd.readMap() <= -100 ? 1 : 0, 1);
-            Check.same("27: nothing else by " + text, Check.allOf(crowd), Check.allOf(inhabited()));
+            Check.same("27: nothing else by " + text, Check.allOf(crowd), Check.allOf(Scenes.inhabited()));
         }
     }
 
@@ -218,10 +204,10 @@ public final class MapEdgesTest {
     private static void wallsOnAgentsOrGoals() {
         Check.sentence("Throws IllegalStateException if a cell would become a wall, and an agent or a goal is on it");
         for (String text : new String[] {"/11#", "//111#", "/11#/111#", "###/###", "##############/##############"}) {
-            CrowdSimulator crowd = inhabitedAndFed(text);
+            CrowdSimulator crowd = Scenes.inhabitedAndFed(text);
             Check.same("27: " + text, Check.thrownBy(crowd::readMap), "IllegalStateException");
         }
-        CrowdSimulator besides = inhabited();
+        CrowdSimulator besides = Scenes.inhabited();
         Check.same("27: walls all round", Check.read(besides, "####/##2#/###2/####"), 16);
         besides.remove(0);
         besides.dropGoal(0);
@@ -242,15 +228,15 @@ public final class MapEdgesTest {
     private static void refusedTexts() {
         Check.sentence("If a text is refused because of a wall, no cell is set.");
         for (String text : new String[] {"555/55#", "555//555#/555", "#/11#/5", "/11#/111#"}) {
-            CrowdSimulator crowd = inhabitedAndFed(text);
+            CrowdSimulator crowd = Scenes.inhabitedAndFed(text);
             Check.same("27: " + text, Check.thrownBy(crowd::readMap), "IllegalStateException");
-            Check.same("27: nothing else by " + text, Check.allOf(crowd), Check.allOf(inhabited()));
+            Check.same("27: nothing else by " + text, Check.allOf(crowd), Check.allOf(Scenes.inhabited()));
         }
     }
 
     private static void errorBeforeException() {
         Check.sentence("-100 minus the error position after a syntax error");
-        CrowdSimulator crowd = inhabited();
+        CrowdSimulator crowd = Scenes.inhabited();
         Check.same("27: a wall on an agent, then an error", Check.read(crowd, "555/55#0"), -107);
         Check.same("27: an error, then a wall on an agent", Check.read(crowd, "0/55#"), -100);
         Check.same("27: a wall on a goal, then an eleventh row", Check.read(crowd, "//555#////////"), -113);

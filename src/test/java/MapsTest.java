@@ -23,20 +23,6 @@ public final class MapsTest {
         return crowd;
     }
 
-    /** An agent on (2, 1) and a goal on (3, 2). */
-    private static CrowdSimulator inhabited() {
-        CrowdSimulator crowd = Check.onMap("999");
-        crowd.add(2, 1, -1, 0);
-        crowd.setGoal(0, 3, 2);
-        return crowd;
-    }
-
-    private static CrowdSimulator inhabitedAndFed(String text) {
-        CrowdSimulator crowd = inhabited();
-        Check.feed(crowd, text);
-        return crowd;
-    }
-
     private static void feed() {
         CrowdSimulator crowd = new CrowdSimulator();
         char[] letters = {'1', '/', '#', (char) 0, (char) 255, (char) 65535, ' ', '0'};
@@ -99,24 +85,24 @@ public final class MapsTest {
             ROW + ":", "/////////" + ROW + "/", "." + "1".repeat(20), (ROW + "/").repeat(10), ROW + "0"};
         int[] due = {0, 0, 0, 0, 3, 2, 2, 14, 14, 29, 9, 10, 22, 1, 1, 1, 14, 23, 0, 149, 14};
         for (int i = 0; i < texts.length; i++) {
-            CrowdSimulator crowd = inhabitedAndFed(texts[i]);
+            CrowdSimulator crowd = Scenes.inhabitedAndFed(texts[i]);
             Check.same("27: error " + i, crowd.readMap(), -100 - due[i]);
-            Check.same("27: no change by error " + i, Check.allOf(crowd), Check.allOf(inhabited()));
+            Check.same("27: no change by error " + i, Check.allOf(crowd), Check.allOf(Scenes.inhabited()));
         }
-        CrowdSimulator crowd = inhabitedAndFed("222/222/222#/x");
+        CrowdSimulator crowd = Scenes.inhabitedAndFed("222/222/222#/x");
         Check.same("27: an error and no place for a wall", crowd.readMap(), -113);
-        CrowdSimulator wall = inhabitedAndFed("222/22#/x");
+        CrowdSimulator wall = Scenes.inhabitedAndFed("222/22#/x");
         Check.same("27: the error before the exception", wall.readMap(), -108);
     }
 
     private static void readMapRefused() {
         String[] texts = {"222/22#", "222//222#", "#/22#", "//333#", "222/22#/333#", "/##############"};
         for (String text : texts) {
-            CrowdSimulator crowd = inhabitedAndFed(text);
+            CrowdSimulator crowd = Scenes.inhabitedAndFed(text);
             Check.same("27: " + text, Check.thrownBy(crowd::readMap), "IllegalStateException");
-            Check.same("27: no change by " + text, Check.allOf(crowd), Check.allOf(inhabited()));
+            Check.same("27: no change by " + text, Check.allOf(crowd), Check.allOf(Scenes.inhabited()));
         }
-        CrowdSimulator crowd = inhabited();
+        CrowdSimulator crowd = Scenes.inhabited();
         Check.same("27: beside both", Check.read(crowd, "###/##3#/###4#"), 3 + 4 + 5);
         Check.same("27: below both", crowd.cell(2, 1, 0) * 10 + crowd.cell(3, 2, 0), 34);
         crowd.remove(0);
@@ -125,7 +111,7 @@ public final class MapsTest {
     }
 
     private static void bufferIsEmptyAfterwards() {
-        CrowdSimulator crowd = inhabited();
+        CrowdSimulator crowd = Scenes.inhabited();
         Check.read(crowd, "11");
         Check.same("27: empty after a map", crowd.feed('x'), 1);
         Check.same("27: an error", crowd.readMap(), -100);
@@ -153,7 +139,7 @@ public final class MapsTest {
 
     private static void mapRefused() {
         for (int i : new int[] {-1, 149, 150, LOW, HIGH}) {
-            Check.outOfBounds("28: at " + i, MapsTest::inhabited, c -> c.map(i));
+            Check.outOfBounds("28: at " + i, Scenes::inhabited, c -> c.map(i));
         }
     }
 }

@@ -41,19 +41,6 @@ public final class TickEdgesTest {
         Check.end("TickEdgesTest");
     }
 
-    private static void state(String what, CrowdSimulator crowd, int agent, int... placeHeadingWait) {
-        Check.same(what + ": place of " + agent, Check.placeOf(crowd, agent), placeHeadingWait[0]);
-        Check.same(what + ": heading of " + agent, crowd.agent(agent, 4), placeHeadingWait[1]);
-        Check.same(what + ": wait of " + agent, crowd.agent(agent, 5), placeHeadingWait[2]);
-    }
-
-    /** Moves, pushes, moves of the third sort, and how often a wait increased. */
-    private static void counted(String what, CrowdSimulator crowd, int... due) {
-        for (int i = 0; i < due.length; i++) {
-            Check.same(what + ": statistic " + (i + 1), crowd.statistic(i + 1), due[i]);
-        }
-    }
-
     // ---- time and turns
 
     private static void numberOfTicks() {
@@ -80,12 +67,12 @@ public final class TickEdgesTest {
         Check.sentence("Makes ticks.");
         CrowdSimulator none = new CrowdSimulator();
         none.tick(50);
-        counted("18: without agents", none, 0, 0, 0, 0);
+        Check.counted("18: without agents", none, 0, 0, 0, 0);
         CrowdSimulator full = Scenes.full();
         full.tick(50);
-        counted("18: sixteen that are settled", full, 0, 0, 0, 0);
+        Check.counted("18: sixteen that are settled", full, 0, 0, 0, 0);
         for (int agent = 0; agent < 16; agent++) {
-            state("18: sixteen that are settled", full, agent, 100 * (agent / 8) + agent % 8, 0, 0);
+            Check.state("18: sixteen that are settled", full, agent, 100 * (agent / 8) + agent % 8, 0, 0);
         }
     }
 
@@ -103,17 +90,17 @@ public final class TickEdgesTest {
     /** If the rear has the highest priority, all wait but the last but one, who pushes the front one. */
     private static void descendingPriorities() {
         Check.sentence("Then the agents have their turns in descending order of priority");
-        counted("18: the front has the highest, and the last number", convoy(false, 0, 1), 10, 0, 0, 0);
-        counted("18: the front has the highest, and the first number", convoy(true, 9, -1), 10, 0, 0, 0);
-        counted("18: the rear has the highest, and the last number", convoy(true, 0, 1), 1, 1, 0, 8);
-        counted("18: the rear has the highest, and the first number", convoy(false, 9, -1), 1, 1, 0, 8);
+        Check.counted("18: the front has the highest, and the last number", convoy(false, 0, 1), 10, 0, 0, 0);
+        Check.counted("18: the front has the highest, and the first number", convoy(true, 9, -1), 10, 0, 0, 0);
+        Check.counted("18: the rear has the highest, and the last number", convoy(true, 0, 1), 1, 1, 0, 8);
+        Check.counted("18: the rear has the highest, and the first number", convoy(false, 9, -1), 1, 1, 0, 8);
     }
 
     private static void ascendingNumbers() {
         Check.sentence("those with the same priority in ascending order of numbers");
         for (int priority = 0; priority < 10; priority += 3) {
-            counted("18: the front has the first number", convoy(true, priority, 0), 10, 0, 0, 0);
-            counted("18: the rear has the first number", convoy(false, priority, 0), 1, 0, 0, 9);
+            Check.counted("18: the front has the first number", convoy(true, priority, 0), 10, 0, 0, 0);
+            Check.counted("18: the rear has the first number", convoy(false, priority, 0), 1, 0, 0, 9);
         }
     }
 
@@ -128,12 +115,12 @@ public final class TickEdgesTest {
             Check.same("18: before its turn", crowd.agent(agent, 5), 4);
         }
         crowd.tick(1);
-        state("18: without a goal", crowd, 0, 505, 0, 0);
-        state("18: its goal is not set", crowd, 1, 507, 0, 0);
-        state("18: on its goal", crowd, 2, 509, 0, 0);
+        Check.state("18: without a goal", crowd, 0, 505, 0, 0);
+        Check.state("18: its goal is not set", crowd, 1, 507, 0, 0);
+        Check.state("18: on its goal", crowd, 2, 509, 0, 0);
         crowd.change(0, true, 0);
         crowd.tick(1);
-        state("18: and it waits again", crowd, 0, 505, 0, 1);
+        Check.state("18: and it waits again", crowd, 0, 505, 0, 1);
     }
 
     private static void noDistance() {
@@ -142,8 +129,8 @@ public final class TickEdgesTest {
             CrowdSimulator crowd = Scenes.waiting(1, 505);
             crowd.setPatience(patience);
             crowd.tick(50);
-            state("18: no way, patience " + patience, crowd, 0, 505, 0, 51);
-            counted("18: no way, patience " + patience, crowd, 0, 0, 0, 51);
+            Check.state("18: no way, patience " + patience, crowd, 0, 505, 0, 51);
+            Check.counted("18: no way, patience " + patience, crowd, 0, 0, 0, 51);
         }
         CrowdSimulator besides = Check.onMap("1#/#");
         besides.setGoal(0, 0, 0);
@@ -151,20 +138,11 @@ public final class TickEdgesTest {
         besides.add(1, 1, 0, 9);
         besides.add(2, 1, -1, 0);
         besides.tick(1);
-        state("18: nobody is pushed without a way", besides, 1, 102, 0, 0);
-        state("18: by one that waits", besides, 0, 101, 0, 1);
+        Check.state("18: nobody is pushed without a way", besides, 1, 102, 0, 0);
+        Check.state("18: by one that waits", besides, 0, 101, 0, 1);
     }
 
     // ---- pushing
-
-    /** Agent 0 comes from the west, on its way to (13, 5), and pushes agent 1, who stands on (5, 5). */
-    private static CrowdSimulator crossing(int goalOfPushed) {
-        CrowdSimulator crowd = new CrowdSimulator();
-        crowd.setGoal(0, 13, 5);
-        crowd.add(4, 5, 0, 9);
-        crowd.add(5, 5, goalOfPushed, 0);
-        return crowd;
-    }
 
     private static void lowerPriority() {
         Check.sentence("Second, if there is an agent there with a lower priority");
@@ -177,9 +155,9 @@ public final class TickEdgesTest {
                 crowd.tick(1);
                 boolean isLower = other < own;
                 String what = "18: " + own + " before " + other;
-                state(what, crowd, 0, isLower ? 4 : 3, isLower ? 1 : 0, isLower ? 0 : 1);
-                state(what, crowd, 1, isLower ? 5 : 4, isLower ? 1 : 0, 0);
-                counted(what, crowd, isLower ? 1 : 0, isLower ? 1 : 0, 0, isLower ? 0 : 1);
+                Check.state(what, crowd, 0, isLower ? 4 : 3, isLower ? 1 : 0, isLower ? 0 : 1);
+                Check.state(what, crowd, 1, isLower ? 5 : 4, isLower ? 1 : 0, 0);
+                Check.counted(what, crowd, isLower ? 1 : 0, isLower ? 1 : 0, 0, isLower ? 0 : 1);
             }
         }
     }
@@ -194,76 +172,76 @@ public final class TickEdgesTest {
         crowd.add(4, 0, -1, 1);
         crowd.add(6, 0, 1, 8);
         crowd.tick(1);
-        state("18: pushed once", crowd, 1, 5, 1, 0);
-        state("18: the second pusher waits", crowd, 2, 6, 0, 1);
-        counted("18: one push", crowd, 1, 1, 0, 1);
+        Check.state("18: pushed once", crowd, 1, 5, 1, 0);
+        Check.state("18: the second pusher waits", crowd, 2, 6, 0, 1);
+        Check.counted("18: one push", crowd, 1, 1, 0, 1);
         crowd.tick(1);
-        state("18: pushed again in the next tick", crowd, 1, 105, 2, 0);
-        state("18: by the first pusher", crowd, 0, 5, 1, 0);
-        state("18: so that the second one waits", crowd, 2, 6, 0, 2);
-        counted("18: two pushes", crowd, 2, 2, 0, 2);
+        Check.state("18: pushed again in the next tick", crowd, 1, 105, 2, 0);
+        Check.state("18: by the first pusher", crowd, 0, 5, 1, 0);
+        Check.state("18: so that the second one waits", crowd, 2, 6, 0, 2);
+        Check.counted("18: two pushes", crowd, 2, 2, 0, 2);
     }
 
     private static void pushedIfItCanBe() {
         Check.sentence("this one is pushed aside, if it can be: of the neighbors of its cell that are no walls and"
             + " without agents");
-        CrowdSimulator walls = crossing(-1);
+        CrowdSimulator walls = Scenes.crossing(-1);
         walls.setCell(5, 4, 0);
         walls.setCell(6, 5, 0);
         walls.setCell(5, 6, 0);
         walls.setGoal(0, 5, 5);
         walls.tick(1);
-        state("18: between walls", walls, 1, 505, 0, 0);
-        state("18: in vain", walls, 0, 504, 0, 1);
-        counted("18: in vain", walls, 0, 0, 0, 1);
-        CrowdSimulator agents = crossing(-1);
+        Check.state("18: between walls", walls, 1, 505, 0, 0);
+        Check.state("18: in vain", walls, 0, 504, 0, 1);
+        Check.counted("18: in vain", walls, 0, 0, 0, 1);
+        CrowdSimulator agents = Scenes.crossing(-1);
         agents.add(5, 4, -1, 0);
         agents.add(6, 5, -1, 0);
         agents.add(5, 6, -1, 0);
         agents.tick(1);
-        state("18: between agents", agents, 1, 505, 0, 0);
-        counted("18: between agents", agents, 0, 0, 0, 1);
+        Check.state("18: between agents", agents, 1, 505, 0, 0);
+        Check.counted("18: between agents", agents, 0, 0, 0, 1);
         agents.remove(4);
         agents.tick(1);
-        state("18: one of them is gone", agents, 1, 605, 2, 0);
-        counted("18: one of them is gone", agents, 1, 1, 0, 1);
+        Check.state("18: one of them is gone", agents, 1, 605, 2, 0);
+        Check.counted("18: one of them is gone", agents, 1, 1, 0, 1);
     }
 
     private static void pushedByDirections() {
         Check.sentence("of several, to the first one in the order of directions");
         int[] due = {405, 506, 605};
         for (int direction = 0; direction < 3; direction++) {
-            CrowdSimulator crowd = crossing(-1);
+            CrowdSimulator crowd = Scenes.crossing(-1);
             crowd.setGoal(0, 5, 5);
             for (int before = 0; before < direction; before++) {
                 crowd.setCell(due[before] % 100, due[before] / 100, 0);
             }
             crowd.tick(1);
-            state("18: free from direction " + direction + " on", crowd, 1, due[direction], direction, 0);
-            state("18: the pusher by direction " + direction, crowd, 0, 505, 1, 0);
+            Check.state("18: free from direction " + direction + " on", crowd, 1, due[direction], direction, 0);
+            Check.state("18: the pusher by direction " + direction, crowd, 0, 505, 1, 0);
         }
         CrowdSimulator west = Check.onMap("###/111/###");
         west.setGoal(0, 1, 1);
         west.add(2, 1, 0, 5);
         west.add(1, 1, -1, 0);
         west.tick(1);
-        state("18: to the west", west, 1, 100, 3, 0);
-        state("18: the pusher", west, 0, 101, 3, 0);
+        Check.state("18: to the west", west, 1, 100, 3, 0);
+        Check.state("18: the pusher", west, 0, 101, 3, 0);
     }
 
     private static void pushedWithoutDistance() {
         Check.sentence("neighbors without such a distance, or any if it has no target, counting as 9999");
         for (int goal = -1; goal < 4; goal += 2) {
-            CrowdSimulator crowd = crossing(goal);
+            CrowdSimulator crowd = Scenes.crossing(goal);
             crowd.setGoal(1, 0, 0);
             crowd.setCell(1, 0, 0);
             crowd.setCell(0, 1, 0);
             crowd.tick(1);
-            state("18: goal " + goal + ", to the first", crowd, 1, 405, 0, 0);
+            Check.state("18: goal " + goal + ", to the first", crowd, 1, 405, 0, 0);
             crowd.undo();
             crowd.setCell(5, 4, 0);
             crowd.tick(1);
-            state("18: goal " + goal + ", to the second", crowd, 1, 506, 1, 0);
+            Check.state("18: goal " + goal + ", to the second", crowd, 1, 506, 1, 0);
         }
     }
 
@@ -277,34 +255,34 @@ public final class TickEdgesTest {
         crowd.add(3, 0, 0, 9);
         crowd.add(4, 0, 1, 0);
         crowd.tick(1);
-        state("18: away from its target by 9", crowd, 1, 5, 1, 0);
+        Check.state("18: away from its target by 9", crowd, 1, 5, 1, 0);
         Check.same("18: its distance", crowd.agent(1, 9), 13);
     }
 
     private static void pushedDoNothingMore() {
         Check.sentence("In its turn, an agent that was pushed in this tick, or is settled, does nothing");
-        CrowdSimulator crowd = crossing(1);
+        CrowdSimulator crowd = Scenes.crossing(1);
         crowd.setGoal(1, 5, 0);
         crowd.tick(1);
-        state("18: pushed toward its target", crowd, 1, 405, 0, 0);
-        counted("18: one move and one push", crowd, 1, 1, 0, 0);
+        Check.state("18: pushed toward its target", crowd, 1, 405, 0, 0);
+        Check.counted("18: one move and one push", crowd, 1, 1, 0, 0);
         crowd.tick(1);
-        state("18: in the next tick it goes on", crowd, 1, 305, 0, 0);
-        counted("18: two moves more", crowd, 3, 1, 0, 0);
+        Check.state("18: in the next tick it goes on", crowd, 1, 305, 0, 0);
+        Check.counted("18: two moves more", crowd, 3, 1, 0, 0);
     }
 
     private static void twoPushedInATick() {
         Check.sentence("In its turn, an agent that was pushed in this tick, or is settled, does nothing");
-        CrowdSimulator crowd = crossing(1);
+        CrowdSimulator crowd = Scenes.crossing(1);
         crowd.setGoal(1, 5, 0);
         crowd.setGoal(2, 13, 8);
         crowd.setGoal(3, 10, 1);
         crowd.add(9, 8, 2, 9);
         crowd.add(10, 8, 3, 0);
         crowd.tick(1);
-        state("18: the first one pushed", crowd, 1, 405, 0, 0);
-        state("18: the second one pushed", crowd, 3, 710, 0, 0);
-        counted("18: two moves and two pushes", crowd, 2, 2, 0, 0);
+        Check.state("18: the first one pushed", crowd, 1, 405, 0, 0);
+        Check.state("18: the second one pushed", crowd, 3, 710, 0, 0);
+        Check.counted("18: two moves and two pushes", crowd, 2, 2, 0, 0);
     }
 
     private static void waitsAndHeadingsOfThePushed() {
@@ -318,23 +296,23 @@ public final class TickEdgesTest {
         crowd.tick(3);
         crowd.change(0, true, 0);
         crowd.tick(1);
-        state("18: not settled, keeps its wait", crowd, 1, 2, 1, 3);
+        Check.state("18: not settled, keeps its wait", crowd, 1, 2, 1, 3);
         crowd.setGoal(1, 3, 0);
         crowd.tick(1);
-        state("18: pushed onto its target", crowd, 1, 3, 1, 0);
-        counted("18: no wait increased by a push", crowd, 2, 2, 0, 3);
+        Check.state("18: pushed onto its target", crowd, 1, 3, 1, 0);
+        Check.counted("18: no wait increased by a push", crowd, 2, 2, 0, 3);
     }
 
     private static void settledArePushed() {
         Check.sentence("Settled agents can be pushed, too.");
-        CrowdSimulator crowd = crossing(1);
+        CrowdSimulator crowd = Scenes.crossing(1);
         crowd.setGoal(1, 5, 5);
         Check.same("13: settled before", crowd.agent(1, 10), 1);
         crowd.tick(1);
-        state("18: pushed from its target", crowd, 1, 405, 0, 0);
+        Check.state("18: pushed from its target", crowd, 1, 405, 0, 0);
         Check.same("13: settled no more", crowd.agent(1, 10), 0);
         crowd.tick(2);
-        state("18: it comes back when the other one is past", crowd, 1, 505, 2, 0);
+        Check.state("18: it comes back when the other one is past", crowd, 1, 505, 2, 0);
     }
 
     // ---- detours
@@ -357,33 +335,33 @@ public final class TickEdgesTest {
             if (patience > 0) {
                 crowd.tick(patience);
             }
-            state("18: not yet by patience " + patience, crowd, 0, 1, 0, patience);
+            Check.state("18: not yet by patience " + patience, crowd, 0, 1, 0, patience);
             crowd.tick(1);
-            state("18: at last by patience " + patience, crowd, 0, 0, 3, 0);
-            counted("18: by patience " + patience, crowd, 1, 0, 1, patience);
+            Check.state("18: at last by patience " + patience, crowd, 0, 0, 3, 0);
+            Check.counted("18: by patience " + patience, crowd, 1, 0, 1, patience);
         }
         CrowdSimulator late = blocked(9);
         late.tick(8);
         late.setPatience(2);
         late.tick(1);
-        state("18: a wait of more than the patience", late, 0, 0, 3, 0);
+        Check.state("18: a wait of more than the patience", late, 0, 0, 3, 0);
         CrowdSimulator first = Scenes.corridor();
         first.setGoal(0, 13, 0);
         first.add(1, 0, 0, 3);
         first.add(2, 0, -1, 3);
         first.tick(3);
-        state("18: not yet by the first patience", first, 0, 1, 0, 3);
+        Check.state("18: not yet by the first patience", first, 0, 1, 0, 3);
         first.tick(1);
-        state("18: at last by the first patience", first, 0, 0, 3, 0);
+        Check.state("18: at last by the first patience", first, 0, 0, 3, 0);
     }
 
     private static void waitBeforeThisTurn() {
         Check.sentence("The wait that is compared with the patience is the one before this turn.");
         CrowdSimulator crowd = blocked(1);
         crowd.tick(1);
-        state("18: a wait of 0 before the turn", crowd, 0, 1, 0, 1);
+        Check.state("18: a wait of 0 before the turn", crowd, 0, 1, 0, 1);
         crowd.tick(1);
-        state("18: a wait of 1 before the turn", crowd, 0, 0, 3, 0);
+        Check.state("18: a wait of 1 before the turn", crowd, 0, 0, 3, 0);
     }
 
     /** The only free neighbor is behind the agent: its distance is more by the cost of the agent's cell. */
@@ -394,34 +372,34 @@ public final class TickEdgesTest {
             crowd.setCell(1, 0, more);
             crowd.tick(1);
             boolean isDone = more <= 2;
-            state("18: by " + more + " more", crowd, 0, isDone ? 0 : 1, isDone ? 3 : 0, isDone ? 0 : 1);
-            counted("18: by " + more + " more", crowd, isDone ? 1 : 0, 0, isDone ? 1 : 0, isDone ? 0 : 1);
+            Check.state("18: by " + more + " more", crowd, 0, isDone ? 0 : 1, isDone ? 3 : 0, isDone ? 0 : 1);
+            Check.counted("18: by " + more + " more", crowd, isDone ? 1 : 0, 0, isDone ? 1 : 0, isDone ? 0 : 1);
         }
     }
 
     private static void detoursByDirections() {
         Check.sentence("it moves to the one with the least distance, of several to the first one in the order of"
             + " directions");
-        CrowdSimulator crowd = crossing(-1);
+        CrowdSimulator crowd = Scenes.crossing(-1);
         crowd.setPatience(0);
         crowd.change(0, false, 0);
         crowd.tick(1);
-        state("18: north, south and west as far", crowd, 0, 404, 0, 0);
+        Check.state("18: north, south and west as far", crowd, 0, 404, 0, 0);
         crowd.undo();
         crowd.setCell(4, 4, 0);
         crowd.tick(1);
-        state("18: south and west as far", crowd, 0, 604, 2, 0);
+        Check.state("18: south and west as far", crowd, 0, 604, 2, 0);
         crowd.undo();
         crowd.setCell(4, 6, 0);
         crowd.tick(1);
-        state("18: west alone", crowd, 0, 503, 3, 0);
-        CrowdSimulator nearer = crossing(-1);
+        Check.state("18: west alone", crowd, 0, 503, 3, 0);
+        CrowdSimulator nearer = Scenes.crossing(-1);
         nearer.setPatience(0);
         nearer.change(0, false, 0);
         nearer.setGoal(0, 6, 9);
         nearer.add(4, 4, -1, 0);
         nearer.tick(1);
-        state("18: the flow leads east, south is as near", nearer, 0, 604, 2, 0);
+        Check.state("18: the flow leads east, south is as near", nearer, 0, 604, 2, 0);
     }
 
     private static void noDetourLeft() {
@@ -429,15 +407,15 @@ public final class TickEdgesTest {
         CrowdSimulator crowd = blocked(0);
         crowd.add(0, 0, -1, 3);
         crowd.tick(1);
-        state("18: between agents", crowd, 0, 1, 0, 1);
+        Check.state("18: between agents", crowd, 0, 1, 0, 1);
         crowd.remove(2);
         crowd.setCell(0, 0, 0);
         crowd.tick(1);
-        state("18: between an agent and walls", crowd, 0, 1, 0, 2);
+        Check.state("18: between an agent and walls", crowd, 0, 1, 0, 2);
         crowd.setCell(0, 0, 1);
         crowd.tick(1);
-        state("18: a free cell again", crowd, 0, 0, 3, 0);
-        counted("18: a free cell again", crowd, 1, 0, 1, 2);
+        Check.state("18: a free cell again", crowd, 0, 0, 3, 0);
+        Check.counted("18: a free cell again", crowd, 1, 0, 1, 2);
     }
 
     private static void cellsOutside() {
@@ -448,22 +426,22 @@ public final class TickEdgesTest {
         pushed.add(12, 0, 0, 9);
         pushed.add(13, 0, -1, 0);
         pushed.tick(1);
-        state("18: a corner leaves no push", pushed, 1, 13, 0, 0);
-        state("18: its pusher", pushed, 0, 12, 0, 1);
+        Check.state("18: a corner leaves no push", pushed, 1, 13, 0, 0);
+        Check.state("18: its pusher", pushed, 0, 12, 0, 1);
         CrowdSimulator detour = Scenes.corridor();
         detour.setPatience(0);
         detour.setGoal(0, 13, 0);
         detour.add(0, 0, 0, 3);
         detour.add(1, 0, -1, 3);
         detour.tick(1);
-        state("18: a corner leaves no detour", detour, 0, 0, 0, 1);
+        Check.state("18: a corner leaves no detour", detour, 0, 0, 0, 1);
         CrowdSimulator last = new CrowdSimulator();
         last.setCell(0, 8, 0);
         last.setGoal(0, 0, 9);
         last.add(1, 9, 0, 9);
         last.add(0, 9, -1, 0);
         last.tick(1);
-        state("18: nor does the last row", last, 1, 900, 0, 0);
+        Check.state("18: nor does the last row", last, 1, 900, 0, 0);
     }
 
     // ---- what moves leave
@@ -473,20 +451,20 @@ public final class TickEdgesTest {
             + " becomes 0");
         CrowdSimulator crowd = blocked(9);
         crowd.tick(7);
-        state("18: before", crowd, 0, 1, 0, 7);
+        Check.state("18: before", crowd, 0, 1, 0, 7);
         crowd.remove(1);
         crowd.tick(1);
-        state("18: a move of the first sort", crowd, 0, 2, 1, 0);
+        Check.state("18: a move of the first sort", crowd, 0, 2, 1, 0);
         crowd.add(3, 0, -1, 3);
         crowd.tick(2);
         crowd.change(1, false, 0);
         crowd.tick(1);
-        state("18: a move of the second sort", crowd, 0, 3, 1, 0);
+        Check.state("18: a move of the second sort", crowd, 0, 3, 1, 0);
     }
 
     private static void passesOfAll() {
         Check.sentence("Pushed agents increase passes as others do; added ones do not");
-        CrowdSimulator crowd = crossing(-1);
+        CrowdSimulator crowd = Scenes.crossing(-1);
         Check.same("3: by adding", crowd.cell(4, 5, 2) + crowd.cell(5, 5, 2), 0);
         crowd.tick(1);
         Check.same("3: by pushing", crowd.cell(5, 5, 2), 1);
@@ -527,19 +505,19 @@ public final class TickEdgesTest {
         Check.sentence("3 the moves of the third sort, which are moves in own turns, too");
         CrowdSimulator crowd = blocked(0);
         crowd.tick(1);
-        counted("19: one of the third sort", crowd, 1, 0, 1, 0);
+        Check.counted("19: one of the third sort", crowd, 1, 0, 1, 0);
         crowd.tick(1);
-        counted("19: one of the first sort", crowd, 2, 0, 1, 0);
+        Check.counted("19: one of the first sort", crowd, 2, 0, 1, 0);
         crowd.change(1, false, 2);
         crowd.tick(1);
-        counted("19: one of the second sort", crowd, 3, 1, 1, 0);
+        Check.counted("19: one of the second sort", crowd, 3, 1, 1, 0);
     }
 
     // ---- forecasts
 
     private static void forecastOfTheSettled() {
         Check.sentence("Returns the number of ticks, 0 if it is settled now.");
-        CrowdSimulator crowd = crossing(1);
+        CrowdSimulator crowd = Scenes.crossing(1);
         Check.same("20: its goal is not set", crowd.forecast(1), 0);
         crowd.change(1, true, -1);
         Check.same("20: no goal", crowd.forecast(1), 0);
@@ -626,7 +604,7 @@ public final class TickEdgesTest {
         Check.noElement("21: no agents", CrowdSimulator::new, c -> c.bottleneck());
         Check.noElement("21: sixteen agents that were added", Scenes::full, c -> c.bottleneck());
         Check.noElement("21: ticks without moves", () -> Scenes.waiting(50, 505), c -> c.bottleneck());
-        CrowdSimulator crowd = crossing(-1);
+        CrowdSimulator crowd = Scenes.crossing(-1);
         crowd.tick(1);
         Check.same("21: one tick", crowd.bottleneck(), 405);
         crowd.undo();

@@ -28,19 +28,6 @@ public final class TicksTest {
         Check.end("TicksTest");
     }
 
-    private static void state(String what, CrowdSimulator crowd, int agent, int... placeHeadingWait) {
-        Check.same(what + ": place of " + agent, Check.placeOf(crowd, agent), placeHeadingWait[0]);
-        Check.same(what + ": heading of " + agent, crowd.agent(agent, 4), placeHeadingWait[1]);
-        Check.same(what + ": wait of " + agent, crowd.agent(agent, 5), placeHeadingWait[2]);
-    }
-
-    /** Moves, pushes, moves of the third sort, and how often a wait increased. */
-    private static void counted(String what, CrowdSimulator crowd, int... due) {
-        for (int i = 0; i < due.length; i++) {
-            Check.same(what + ": statistic " + (i + 1), crowd.statistic(i + 1), due[i]);
-        }
-    }
-
     private static void time() {
         CrowdSimulator crowd = new CrowdSimulator();
         Check.same("18: one tick", crowd.tick(1), 1);
@@ -55,25 +42,25 @@ public final class TicksTest {
         equal.add(2, 0, 0, 4);
         equal.add(0, 0, 0, 4);
         equal.tick(1);
-        state("18: the lower number first", equal, 0, 1, 3, 0);
-        state("18: the higher number then", equal, 1, 0, 0, 1);
+        Check.state("18: the lower number first", equal, 0, 1, 3, 0);
+        Check.state("18: the higher number then", equal, 1, 0, 0, 1);
         CrowdSimulator unequal = Scenes.corridor();
         unequal.setGoal(0, 1, 0);
         unequal.add(2, 0, 0, 4);
         unequal.add(0, 0, 0, 5);
         unequal.tick(1);
-        state("18: the higher priority first", unequal, 1, 1, 1, 0);
-        state("18: the lower priority then", unequal, 0, 2, 0, 1);
+        Check.state("18: the higher priority first", unequal, 1, 1, 1, 0);
+        Check.state("18: the lower priority then", unequal, 0, 2, 0, 1);
         CrowdSimulator row = Scenes.corridor();
         row.setGoal(0, 13, 0);
         row.add(0, 0, 0, 0);
         row.add(1, 0, 0, 9);
         row.tick(1);
-        state("18: the one in front first", row, 1, 2, 1, 0);
-        state("18: so the one behind follows", row, 0, 1, 1, 0);
+        Check.state("18: the one in front first", row, 1, 2, 1, 0);
+        Check.state("18: so the one behind follows", row, 0, 1, 1, 0);
         row.change(0, false, 9);
         row.tick(1);
-        state("18: the one behind first", row, 0, 1, 1, 1);
+        Check.state("18: the one behind first", row, 0, 1, 1, 1);
     }
 
     private static void goingAlongTheFlow() {
@@ -84,18 +71,18 @@ public final class TicksTest {
         int[] headings = {0, 1, 1, 1};
         for (int i = 0; i < due.length; i++) {
             crowd.tick(1);
-            state("18: tick " + i, crowd, 0, due[i], headings[i], 0);
+            Check.state("18: tick " + i, crowd, 0, due[i], headings[i], 0);
         }
         Check.same("18: passes of the start", crowd.cell(1, 4, 2), 0);
         Check.same("18: passes of the way", crowd.cell(1, 3, 2) + crowd.cell(2, 3, 2), 2);
         Check.same("18: passes of the goal", crowd.cell(3, 3, 2), 1);
-        counted("18: the way", crowd, 3, 0, 0, 0);
+        Check.counted("18: the way", crowd, 3, 0, 0, 0);
         crowd.setGoal(3, 3, 5);
         crowd.tick(2);
-        state("18: southward", crowd, 0, 503, 2, 0);
+        Check.state("18: southward", crowd, 0, 503, 2, 0);
         crowd.setGoal(3, 2, 5);
         crowd.tick(1);
-        state("18: westward", crowd, 0, 502, 3, 0);
+        Check.state("18: westward", crowd, 0, 502, 3, 0);
     }
 
     private static void goingAroundDearCells() {
@@ -103,9 +90,9 @@ public final class TicksTest {
         crowd.setGoal(0, 2, 0);
         crowd.add(0, 0, 0, 0);
         crowd.tick(2);
-        state("18: round", crowd, 0, 101, 1, 0);
+        Check.state("18: round", crowd, 0, 101, 1, 0);
         crowd.tick(2);
-        state("18: there", crowd, 0, 2, 0, 0);
+        Check.state("18: there", crowd, 0, 2, 0, 0);
         Check.same("18: not over the dear cell", crowd.cell(1, 0, 2), 0);
     }
 
@@ -115,12 +102,12 @@ public final class TicksTest {
         crowd.setGoal(0, 0, 0);
         crowd.add(5, 5, 0, 0);
         crowd.tick(7);
-        state("18: no way", crowd, 0, 505, 0, 7);
-        counted("18: no way", crowd, 0, 0, 0, 7);
+        Check.state("18: no way", crowd, 0, 505, 0, 7);
+        Check.counted("18: no way", crowd, 0, 0, 0, 7);
         crowd.setCell(1, 0, 1);
         crowd.tick(1);
-        state("18: a way", crowd, 0, 405, 0, 0);
-        counted("18: a way", crowd, 1, 0, 0, 7);
+        Check.state("18: a way", crowd, 0, 405, 0, 0);
+        Check.counted("18: a way", crowd, 1, 0, 0, 7);
     }
 
     private static void settled() {
@@ -136,10 +123,10 @@ public final class TicksTest {
         crowd.change(2, true, 2);
         Check.same("18: the wait stays until the turn", crowd.agent(0, 5), 3);
         crowd.tick(1);
-        state("18: without a goal", crowd, 0, 505, 0, 0);
-        state("18: with a goal not set", crowd, 1, 606, 0, 0);
-        state("18: on its goal", crowd, 2, 707, 0, 0);
-        counted("18: settled", crowd, 0, 0, 0, 9);
+        Check.state("18: without a goal", crowd, 0, 505, 0, 0);
+        Check.state("18: with a goal not set", crowd, 1, 606, 0, 0);
+        Check.state("18: on its goal", crowd, 2, 707, 0, 0);
+        Check.counted("18: settled", crowd, 0, 0, 0, 9);
     }
 
     private static void pushing() {
@@ -148,100 +135,91 @@ public final class TicksTest {
         crowd.add(3, 0, 0, 2);
         crowd.add(4, 0, -1, 1);
         crowd.tick(1);
-        state("18: the pusher", crowd, 0, 4, 1, 0);
-        state("18: the pushed", crowd, 1, 5, 1, 0);
+        Check.state("18: the pusher", crowd, 0, 4, 1, 0);
+        Check.state("18: the pushed", crowd, 1, 5, 1, 0);
         Check.same("18: the pushed one passes, too", crowd.cell(5, 0, 2), 1);
         Check.same("18: the pusher passes", crowd.cell(4, 0, 2), 1);
-        counted("18: a push", crowd, 1, 1, 0, 0);
+        Check.counted("18: a push", crowd, 1, 1, 0, 0);
         crowd.tick(8);
-        state("18: at the end the pushed one", crowd, 1, 13, 1, 0);
-        state("18: behind it the pusher", crowd, 0, 12, 1, 0);
-        counted("18: nine pushes", crowd, 9, 9, 0, 0);
+        Check.state("18: at the end the pushed one", crowd, 1, 13, 1, 0);
+        Check.state("18: behind it the pusher", crowd, 0, 12, 1, 0);
+        Check.counted("18: nine pushes", crowd, 9, 9, 0, 0);
         crowd.tick(1);
-        state("18: no push at the end", crowd, 0, 12, 1, 1);
-        counted("18: at the end", crowd, 9, 9, 0, 1);
-    }
-
-    /** Agent 0 comes from the west and pushes agent 1, who stands on (5, 5). */
-    private static CrowdSimulator crossing(int goalOfPushed) {
-        CrowdSimulator crowd = new CrowdSimulator();
-        crowd.setGoal(0, 13, 5);
-        crowd.add(4, 5, 0, 9);
-        crowd.add(5, 5, goalOfPushed, 0);
-        return crowd;
+        Check.state("18: no push at the end", crowd, 0, 12, 1, 1);
+        Check.counted("18: at the end", crowd, 9, 9, 0, 1);
     }
 
     private static void pushedTo() {
-        CrowdSimulator crowd = crossing(-1);
+        CrowdSimulator crowd = Scenes.crossing(-1);
         crowd.tick(1);
-        state("18: no target, to the north", crowd, 1, 405, 0, 0);
-        CrowdSimulator north = crossing(3);
+        Check.state("18: no target, to the north", crowd, 1, 405, 0, 0);
+        CrowdSimulator north = Scenes.crossing(3);
         north.setCell(5, 4, 0);
         north.tick(1);
-        state("18: goal not set, not on a wall", north, 1, 506, 1, 0);
-        CrowdSimulator east = crossing(-1);
+        Check.state("18: goal not set, not on a wall", north, 1, 506, 1, 0);
+        CrowdSimulator east = Scenes.crossing(-1);
         east.add(5, 4, -1, 9);
         east.add(6, 5, -1, 0);
         east.tick(1);
-        state("18: not on agents", east, 1, 605, 2, 0);
-        CrowdSimulator shut = crossing(-1);
+        Check.state("18: not on agents", east, 1, 605, 2, 0);
+        CrowdSimulator shut = Scenes.crossing(-1);
         shut.setCell(5, 4, 0);
         shut.setCell(5, 6, 0);
         shut.add(6, 5, -1, 0);
         shut.tick(1);
-        state("18: nowhere", shut, 1, 505, 0, 0);
-        state("18: in vain", shut, 0, 504, 0, 1);
-        counted("18: in vain", shut, 0, 0, 0, 1);
+        Check.state("18: nowhere", shut, 1, 505, 0, 0);
+        Check.state("18: in vain", shut, 0, 504, 0, 1);
+        Check.counted("18: in vain", shut, 0, 0, 0, 1);
         CrowdSimulator corner = new CrowdSimulator();
         corner.setGoal(0, 0, 0);
         corner.add(2, 0, 0, 5);
         corner.add(1, 0, -1, 4);
         corner.setCell(1, 1, 0);
         corner.tick(1);
-        state("18: to the west", corner, 1, 0, 3, 0);
-        state("18: after it", corner, 0, 1, 3, 0);
+        Check.state("18: to the west", corner, 1, 0, 3, 0);
+        Check.state("18: after it", corner, 0, 1, 3, 0);
     }
 
     private static void pushedByDistance() {
-        CrowdSimulator onward = crossing(1);
+        CrowdSimulator onward = Scenes.crossing(1);
         onward.setGoal(1, 9, 5);
         onward.tick(1);
-        state("18: to the least distance", onward, 1, 506, 1, 0);
-        CrowdSimulator far = crossing(1);
+        Check.state("18: to the least distance", onward, 1, 506, 1, 0);
+        CrowdSimulator far = Scenes.crossing(1);
         far.setGoal(1, 13, 9);
         far.tick(1);
-        state("18: to the least of great distances", far, 1, 506, 1, 0);
-        counted("18: pushed far from its target", far, 1, 1, 0, 0);
-        CrowdSimulator south = crossing(1);
+        Check.state("18: to the least of great distances", far, 1, 506, 1, 0);
+        Check.counted("18: pushed far from its target", far, 1, 1, 0, 0);
+        CrowdSimulator south = Scenes.crossing(1);
         south.setGoal(1, 5, 9);
         south.tick(1);
-        state("18: to the south", south, 1, 605, 2, 0);
-        CrowdSimulator tie = crossing(1);
+        Check.state("18: to the south", south, 1, 605, 2, 0);
+        CrowdSimulator tie = Scenes.crossing(1);
         tie.setGoal(1, 8, 8);
         tie.tick(1);
-        state("18: of two the first direction", tie, 1, 506, 1, 0);
-        CrowdSimulator back = crossing(1);
+        Check.state("18: of two the first direction", tie, 1, 506, 1, 0);
+        CrowdSimulator back = Scenes.crossing(1);
         back.setGoal(1, 0, 5);
         back.tick(1);
-        state("18: where the least is farther away", back, 1, 405, 0, 0);
-        CrowdSimulator dear = crossing(1);
+        Check.state("18: where the least is farther away", back, 1, 405, 0, 0);
+        CrowdSimulator dear = Scenes.crossing(1);
         dear.setGoal(1, 8, 8);
         dear.setCell(7, 5, 9);
         dear.setCell(6, 6, 9);
         dear.tick(1);
-        state("18: by the costs", dear, 1, 605, 2, 0);
-        CrowdSimulator cut = crossing(1);
+        Check.state("18: by the costs", dear, 1, 605, 2, 0);
+        CrowdSimulator cut = Scenes.crossing(1);
         cut.setGoal(1, 0, 0);
         cut.setCell(1, 0, 0);
         cut.setCell(0, 1, 0);
         cut.tick(1);
-        state("18: no distance, to the north, and its wait", cut, 1, 405, 0, 0);
-        CrowdSimulator half = crossing(1);
+        Check.state("18: no distance, to the north, and its wait", cut, 1, 405, 0, 0);
+        CrowdSimulator half = Scenes.crossing(1);
         half.setGoal(1, 5, 9);
         half.setCell(5, 6, 0);
         half.add(6, 5, -1, 1);
         half.tick(1);
-        state("18: of one free cell", half, 1, 405, 0, 0);
+        Check.state("18: of one free cell", half, 1, 405, 0, 0);
     }
 
     private static void whoIsNotPushed() {
@@ -251,12 +229,12 @@ public final class TicksTest {
             crowd.add(3, 0, 0, 5);
             crowd.add(4, 0, -1, priority);
             crowd.tick(1);
-            state("18: not by priority " + priority, crowd, 0, 3, 0, 1);
-            state("18: not of priority " + priority, crowd, 1, 4, 0, 0);
-            counted("18: not pushed", crowd, 0, 0, 0, 1);
+            Check.state("18: not by priority " + priority, crowd, 0, 3, 0, 1);
+            Check.state("18: not of priority " + priority, crowd, 1, 4, 0, 0);
+            Check.counted("18: not pushed", crowd, 0, 0, 0, 1);
             crowd.change(1, false, 4);
             crowd.tick(1);
-            state("18: with less priority", crowd, 1, 5, 1, 0);
+            Check.state("18: with less priority", crowd, 1, 5, 1, 0);
         }
     }
 
@@ -269,35 +247,35 @@ public final class TicksTest {
         crowd.add(1, 0, -1, 1);
         crowd.add(3, 0, 1, 8);
         crowd.tick(1);
-        state("18: pushed once", crowd, 1, 2, 1, 0);
-        state("18: the first pusher", crowd, 0, 1, 1, 0);
-        state("18: no second push", crowd, 2, 3, 0, 1);
-        counted("18: one push", crowd, 1, 1, 0, 1);
+        Check.state("18: pushed once", crowd, 1, 2, 1, 0);
+        Check.state("18: the first pusher", crowd, 0, 1, 1, 0);
+        Check.state("18: no second push", crowd, 2, 3, 0, 1);
+        Check.counted("18: one push", crowd, 1, 1, 0, 1);
         crowd.tick(1);
-        state("18: pushed in the next tick", crowd, 1, 102, 2, 0);
-        state("18: the first pusher again", crowd, 0, 2, 1, 0);
-        state("18: blocked by the first", crowd, 2, 3, 0, 2);
+        Check.state("18: pushed in the next tick", crowd, 1, 102, 2, 0);
+        Check.state("18: the first pusher again", crowd, 0, 2, 1, 0);
+        Check.state("18: blocked by the first", crowd, 2, 3, 0, 2);
     }
 
     private static void pushedBeforeItsTurn() {
-        CrowdSimulator crowd = crossing(1);
+        CrowdSimulator crowd = Scenes.crossing(1);
         crowd.setGoal(1, 5, 0);
         crowd.tick(1);
-        state("18: a pushed one does nothing more", crowd, 1, 405, 0, 0);
-        counted("18: one move, one push", crowd, 1, 1, 0, 0);
+        Check.state("18: a pushed one does nothing more", crowd, 1, 405, 0, 0);
+        Check.counted("18: one move, one push", crowd, 1, 1, 0, 0);
         crowd.tick(1);
-        state("18: but in the next tick", crowd, 1, 305, 0, 0);
+        Check.state("18: but in the next tick", crowd, 1, 305, 0, 0);
         CrowdSimulator done = Scenes.corridor();
         done.setGoal(0, 13, 0);
         done.setGoal(1, 0, 0);
         done.add(5, 0, 0, 3);
         done.add(7, 0, 1, 2);
         done.tick(1);
-        state("18: the first of two", done, 0, 6, 1, 0);
-        state("18: waits for it", done, 1, 7, 0, 1);
+        Check.state("18: the first of two", done, 0, 6, 1, 0);
+        Check.state("18: waits for it", done, 1, 7, 0, 1);
         done.tick(1);
-        state("18: pushes back", done, 1, 8, 1, 1);
-        state("18: goes on", done, 0, 7, 1, 0);
+        Check.state("18: pushes back", done, 1, 8, 1, 1);
+        Check.state("18: goes on", done, 0, 7, 1, 0);
     }
 
     private static void waitsOfThePushed() {
@@ -307,16 +285,16 @@ public final class TicksTest {
         crowd.add(0, 0, 0, 9);
         crowd.add(2, 0, 1, 0);
         crowd.tick(1);
-        state("18: waits before", crowd, 1, 2, 0, 1);
+        Check.state("18: waits before", crowd, 1, 2, 0, 1);
         crowd.tick(1);
-        state("18: pushed, keeps its wait", crowd, 1, 3, 1, 1);
+        Check.state("18: pushed, keeps its wait", crowd, 1, 3, 1, 1);
         crowd.setGoal(1, 4, 0);
         crowd.tick(1);
-        state("18: pushed onto its target", crowd, 1, 4, 1, 0);
-        state("18: the pusher", crowd, 0, 3, 1, 0);
+        Check.state("18: pushed onto its target", crowd, 1, 4, 1, 0);
+        Check.state("18: the pusher", crowd, 0, 3, 1, 0);
         crowd.tick(1);
-        state("18: pushed from its target", crowd, 1, 5, 1, 0);
-        counted("18: waits", crowd, 4, 3, 0, 1);
+        Check.state("18: pushed from its target", crowd, 1, 5, 1, 0);
+        Check.counted("18: waits", crowd, 4, 3, 0, 1);
     }
 
     /** The pusher follows the leader that it pushes; its move goes on to where the flow led before. */
@@ -326,15 +304,15 @@ public final class TicksTest {
         crowd.add(4, 5, -1, 5);
         crowd.join(1, 0, 1, 0);
         crowd.tick(1);
-        state("18: the pushed leader", crowd, 0, 405, 0, 0);
-        state("18: its pushing member", crowd, 1, 505, 1, 0);
+        Check.state("18: the pushed leader", crowd, 0, 405, 0, 0);
+        Check.state("18: its pushing member", crowd, 1, 505, 1, 0);
         Check.same("18: the slot has moved", Check.targetOf(crowd, 1), 406);
         CrowdSimulator turned = Scenes.corridor();
         turned.add(5, 0, -1, 0);
         turned.add(4, 0, -1, 5);
         turned.join(1, 0, 3, 0);
         turned.tick(1);
-        state("18: the turned leader", turned, 0, 6, 1, 0);
+        Check.state("18: the turned leader", turned, 0, 6, 1, 0);
         Check.same("18: the slot turns with the push", Check.targetOf(turned, 1), 306);
     }
 
@@ -344,22 +322,22 @@ public final class TicksTest {
         crowd.add(4, 5, 0, 3);
         crowd.add(5, 5, -1, 3);
         crowd.tick(3);
-        state("18: patient", crowd, 0, 504, 0, 3);
-        counted("18: patient", crowd, 0, 0, 0, 3);
+        Check.state("18: patient", crowd, 0, 504, 0, 3);
+        Check.counted("18: patient", crowd, 0, 0, 0, 3);
         crowd.tick(1);
-        state("18: of three the first direction", crowd, 0, 404, 0, 0);
-        counted("18: a detour", crowd, 1, 0, 1, 3);
+        Check.state("18: of three the first direction", crowd, 0, 404, 0, 0);
+        Check.counted("18: a detour", crowd, 1, 0, 1, 3);
         Check.same("18: a detour passes", crowd.cell(4, 4, 2), 1);
         crowd.tick(2);
-        state("18: past the other", crowd, 0, 406, 1, 0);
-        counted("18: past the other", crowd, 3, 0, 1, 3);
+        Check.state("18: past the other", crowd, 0, 406, 1, 0);
+        Check.counted("18: past the other", crowd, 3, 0, 1, 3);
         CrowdSimulator corner = new CrowdSimulator();
         corner.setPatience(0);
         corner.setGoal(0, 6, 7);
         corner.add(4, 5, 0, 3);
         corner.add(5, 5, -1, 3);
         corner.tick(1);
-        state("18: to the least distance", corner, 0, 604, 2, 0);
+        Check.state("18: to the least distance", corner, 0, 604, 2, 0);
         CrowdSimulator shut = new CrowdSimulator();
         shut.setPatience(0);
         shut.setGoal(0, 9, 5);
@@ -368,13 +346,13 @@ public final class TicksTest {
         shut.add(5, 5, -1, 3);
         shut.add(4, 6, -1, 3);
         shut.tick(1);
-        state("18: neither on walls nor on agents", shut, 0, 503, 3, 0);
+        Check.state("18: neither on walls nor on agents", shut, 0, 503, 3, 0);
         shut.setCell(3, 4, 0);
         shut.setCell(3, 6, 0);
         shut.setCell(2, 5, 0);
         shut.add(4, 5, -1, 9);
         shut.tick(1);
-        state("18: no free neighbor", shut, 0, 503, 3, 1);
+        Check.state("18: no free neighbor", shut, 0, 503, 3, 1);
     }
 
     /** The only free neighbor is behind the agent: its distance is more by the cost of the agent's cell. */
@@ -388,8 +366,8 @@ public final class TicksTest {
             crowd.add(2, 0, -1, 3);
             crowd.tick(1);
             boolean isTooLong = cost > 2;
-            state("18: back by cost " + cost, crowd, 0, isTooLong ? 1 : 0, isTooLong ? 0 : 3, isTooLong ? 1 : 0);
-            counted("18: back by cost " + cost, crowd, isTooLong ? 0 : 1, 0, isTooLong ? 0 : 1, isTooLong ? 1 : 0);
+            Check.state("18: back by cost " + cost, crowd, 0, isTooLong ? 1 : 0, isTooLong ? 0 : 3, isTooLong ? 1 : 0);
+            Check.counted("18: back by cost " + cost, crowd, isTooLong ? 0 : 1, 0, isTooLong ? 0 : 1, isTooLong ? 1 : 0);
         }
     }
 
@@ -403,28 +381,28 @@ public final class TicksTest {
             for (int i = 0; i < patience; i++) {
                 crowd.tick(1);
             }
-            state("18: before the end of patience " + patience, crowd, 0, 1, 0, patience);
+            Check.state("18: before the end of patience " + patience, crowd, 0, 1, 0, patience);
             crowd.tick(1);
-            state("18: behind the end of patience " + patience, crowd, 0, 0, 3, 0);
+            Check.state("18: behind the end of patience " + patience, crowd, 0, 0, 3, 0);
             crowd.setPatience(9);
             crowd.tick(2);
-            state("18: a new patience counts", crowd, 0, 1, 1, 1);
+            Check.state("18: a new patience counts", crowd, 0, 1, 1, 1);
         }
     }
 
     private static void detourAfterVainPush() {
-        CrowdSimulator crowd = crossing(-1);
+        CrowdSimulator crowd = Scenes.crossing(-1);
         crowd.setPatience(1);
         crowd.setCell(5, 4, 0);
         crowd.setCell(5, 6, 0);
         crowd.setCell(6, 5, 0);
         crowd.setGoal(0, 5, 5);
         crowd.tick(1);
-        state("18: a vain push", crowd, 0, 504, 0, 1);
+        Check.state("18: a vain push", crowd, 0, 504, 0, 1);
         crowd.tick(1);
-        state("18: then a detour", crowd, 0, 404, 0, 0);
-        state("18: the other one", crowd, 1, 505, 0, 0);
-        counted("18: then a detour", crowd, 1, 0, 1, 1);
+        Check.state("18: then a detour", crowd, 0, 404, 0, 0);
+        Check.state("18: the other one", crowd, 1, 505, 0, 0);
+        Check.counted("18: then a detour", crowd, 1, 0, 1, 1);
     }
 
     /** The slot is the one of the moment: before or after the leader's own turn. */
@@ -436,9 +414,9 @@ public final class TicksTest {
             crowd.add(5, 6, 0, priority);
             crowd.join(1, 0, 0, 1);
             crowd.tick(1);
-            state("18: the leader", crowd, 0, 506, 1, 0);
+            Check.state("18: the leader", crowd, 0, 506, 1, 0);
             int[] due = priority == 0 ? new int[] {505, 0, 0} : new int[] {605, 0, 0};
-            state("18: the member of priority " + priority, crowd, 1, due);
+            Check.state("18: the member of priority " + priority, crowd, 1, due);
             Check.same("18: its slot", Check.targetOf(crowd, 1), 505);
             Check.same("18: moves with priority " + priority, crowd.statistic(1), priority == 0 ? 2 : 1);
         }
@@ -447,8 +425,8 @@ public final class TicksTest {
         wall.add(5, 0, -1, 1);
         wall.join(1, 0, 0, 1);
         wall.tick(3);
-        state("18: to the leader, as the slot is a wall", wall, 1, 4, 3, 2);
-        state("18: a leader on its own", wall, 0, 3, 0, 0);
+        Check.state("18: to the leader, as the slot is a wall", wall, 1, 4, 3, 2);
+        Check.state("18: a leader on its own", wall, 0, 3, 0, 0);
     }
 
     private static void statistic() {
@@ -466,7 +444,7 @@ public final class TicksTest {
     }
 
     private static CrowdSimulator three() {
-        CrowdSimulator crowd = crossing(-1);
+        CrowdSimulator crowd = Scenes.crossing(-1);
         crowd.add(7, 7, 0, 4);
         crowd.join(2, 1, 1, 1);
         crowd.tick(2);

@@ -13,6 +13,7 @@ public final class UndoEdgesTest {
         latestNotTakenBack();
         roundAndRound();
         broughtBack();
+        passesBroughtBack();
         lastOfSixteenBroughtBack();
         bufferStays();
         savedInPlace();
@@ -235,6 +236,23 @@ public final class UndoEdgesTest {
         crowd.undo();
         Check.same("29: heading of one that was removed", crowd.agent(0, 4), 1);
         Check.same("29: wait of one that was removed", crowd.agent(0, 5), 2);
+    }
+
+    private static void passesBroughtBack() {
+        Check.sentence("Taking back a change also brings back time, passes, statistics, waits and headings");
+        CrowdSimulator crowd = new CrowdSimulator();
+        crowd.setGoal(0, 0, 0);
+        crowd.setGoal(1, 13, 9);
+        crowd.add(1, 0, 0, 0);
+        crowd.add(12, 9, 1, 0);
+        crowd.save();
+        crowd.tick(1);
+        Check.same("3: passes of the first and the last cell", crowd.cell(0, 0, 2) + crowd.cell(13, 9, 2), 2);
+        crowd.undo();
+        Check.same("29: taken back", crowd.cell(0, 0, 2) + crowd.cell(13, 9, 2), 0);
+        crowd.tick(1);
+        crowd.restore();
+        Check.same("31: as saved", crowd.cell(0, 0, 2) + crowd.cell(13, 9, 2), 0);
     }
 
     /** Agent 15 has gone to the last cell, waits there, and has a leader and an offset; two of its changes are done. */

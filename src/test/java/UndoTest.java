@@ -14,23 +14,6 @@ public final class UndoTest {
         Check.end("UndoTest");
     }
 
-    /** A crowd that has something of everything, and no change that can be taken back. */
-    private static CrowdSimulator lively() {
-        CrowdSimulator crowd = Check.onMap("1111/##31/##11");
-        crowd.setGoal(0, 3, 2);
-        crowd.setGoal(1, 9, 9);
-        crowd.add(0, 0, 0, 9);
-        crowd.add(1, 0, 1, 3);
-        crowd.add(6, 6, 0, 5);
-        crowd.add(5, 7, 2, 5);
-        crowd.join(2, 3, 1, 1);
-        crowd.setPatience(1);
-        crowd.tick(3);
-        crowd.save();
-        crowd.restore();
-        return crowd;
-    }
-
     private static final Check.Call[] CHANGES = {
         c -> c.setCell(8, 8, 0), c -> c.setCell(8, 8, 1), c -> c.setGoal(0, 0, 0), c -> c.setGoal(2, 9, 0),
         c -> c.dropGoal(1), c -> c.setPatience(7), c -> c.setPatience(1), c -> c.add(12, 3, 1, 8),
@@ -41,20 +24,20 @@ public final class UndoTest {
 
     private static void everyChange() {
         for (int i = 0; i < CHANGES.length; i++) {
-            CrowdSimulator crowd = lively();
+            CrowdSimulator crowd = Scenes.calm();
             CHANGES[i].on(crowd);
             Check.same("29: change " + i, crowd.undo(), 0);
-            Check.same("29: all as before change " + i, Check.allOf(crowd), Check.allOf(lively()));
+            Check.same("29: all as before change " + i, Check.allOf(crowd), Check.allOf(Scenes.calm()));
         }
-        CrowdSimulator crowd = lively();
+        CrowdSimulator crowd = Scenes.calm();
         Check.read(crowd, "5555/##55");
         Check.same("29: a map", crowd.cell(0, 0, 0), 5);
         crowd.setGoal(3, 0, 0);
         Check.same("29: before the map's undo", crowd.distance(3, 1, 0), 5);
         Check.same("29: the goal", crowd.undo(), 1);
         Check.same("29: the map", crowd.undo(), 0);
-        Check.same("29: all as before the map", Check.allOf(crowd), Check.allOf(lively()));
-        CrowdSimulator fields = lively();
+        Check.same("29: all as before the map", Check.allOf(crowd), Check.allOf(Scenes.calm()));
+        CrowdSimulator fields = Scenes.calm();
         int before = fields.distance(0, 2, 1);
         fields.setCell(3, 2, 9);
         Check.same("29: the distance after", fields.distance(0, 2, 1) - before, 8);
@@ -73,14 +56,14 @@ public final class UndoTest {
     private static void noChanges() {
         for (int i = 0; i < NO_CHANGES.length; i++) {
             Check.Call call = NO_CHANGES[i];
-            CrowdSimulator crowd = lively();
+            CrowdSimulator crowd = Scenes.calm();
             Check.thrownBy(() -> call.on(crowd));
             Check.badState("29: nothing to take back behind " + i, () -> crowdAfter(call), c -> c.undo());
         }
-        CrowdSimulator error = lively();
+        CrowdSimulator error = Scenes.calm();
         Check.read(error, "x");
         Check.same("29: behind an error", Check.thrownBy(error::undo), "IllegalStateException");
-        CrowdSimulator refused = lively();
+        CrowdSimulator refused = Scenes.calm();
         refused.setGoal(0, 0, 0);
         Check.feed(refused, "#");
         Check.thrownBy(refused::readMap);
@@ -88,7 +71,7 @@ public final class UndoTest {
     }
 
     private static CrowdSimulator crowdAfter(Check.Call call) {
-        CrowdSimulator crowd = lively();
+        CrowdSimulator crowd = Scenes.calm();
         Check.thrownBy(() -> call.on(crowd));
         return crowd;
     }
@@ -135,9 +118,9 @@ public final class UndoTest {
     }
 
     private static void undoRefused() {
-        Check.badState("29: nothing yet", UndoTest::lively, c -> c.undo());
+        Check.badState("29: nothing yet", Scenes::calm, c -> c.undo());
         Check.badState("29: all taken back", () -> {
-            CrowdSimulator crowd = lively();
+            CrowdSimulator crowd = Scenes.calm();
             crowd.tick(2);
             crowd.undo();
             return crowd;
@@ -162,7 +145,7 @@ public final class UndoTest {
     }
 
     private static void save() {
-        CrowdSimulator crowd = lively();
+        CrowdSimulator crowd = Scenes.calm();
         Check.same("30: four agents", crowd.save(), 4);
         Check.same("30: no agents", new CrowdSimulator().save(), 0);
         crowd.setCell(8, 8, 3);
@@ -194,14 +177,14 @@ public final class UndoTest {
 
     private static void restore() {
         for (int i = 0; i < CHANGES.length; i++) {
-            CrowdSimulator crowd = lively();
+            CrowdSimulator crowd = Scenes.calm();
             CHANGES[i].on(crowd);
             crowd.tick(1);
             Check.same("31: after change " + i, crowd.restore(), 4);
             Check.same("31: nothing to take back " + i, Check.thrownBy(crowd::undo), "IllegalStateException");
-            Check.same("31: all as saved " + i, Check.allOf(crowd), Check.allOf(lively()));
+            Check.same("31: all as saved " + i, Check.allOf(crowd), Check.allOf(Scenes.calm()));
         }
-        CrowdSimulator fields = lively();
+        CrowdSimulator fields = Scenes.calm();
         int before = fields.distance(0, 2, 1);
         fields.setCell(3, 2, 9);
         Check.same("31: the distance after", fields.distance(0, 2, 1) - before, 8);

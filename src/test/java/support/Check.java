@@ -116,6 +116,19 @@ final class Check {
         return 100 * crowd.agent(agent, 8) + crowd.agent(agent, 7);
     }
 
+    static void state(String what, CrowdSimulator crowd, int agent, int... placeHeadingWait) {
+        same(what + ": place of " + agent, placeOf(crowd, agent), placeHeadingWait[0]);
+        same(what + ": heading of " + agent, crowd.agent(agent, 4), placeHeadingWait[1]);
+        same(what + ": wait of " + agent, crowd.agent(agent, 5), placeHeadingWait[2]);
+    }
+
+    /** Moves, pushes, moves of the third sort, and how often a wait increased. */
+    static void counted(String what, CrowdSimulator crowd, int... due) {
+        for (int i = 0; i < due.length; i++) {
+            same(what + ": statistic " + (i + 1), crowd.statistic(i + 1), due[i]);
+        }
+    }
+
     /**
      * All that tells of what an object holds, in 300 calls and nine more for each agent, for the object
      * is then used up: the last ones are undo until there is nothing to take back, restore and readMap.

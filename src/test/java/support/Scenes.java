@@ -3,8 +3,8 @@ final class Scenes {
     private Scenes() {
     }
 
-    /** Something of everything: also a saved state that is another one, three changes to take back, a fed buffer. */
-    static CrowdSimulator lively() {
+    /** Something of everything, and no change that can be taken back. */
+    static CrowdSimulator calm() {
         CrowdSimulator crowd = Check.onMap("1111/##31/##11");
         crowd.setGoal(0, 3, 2);
         crowd.setGoal(1, 9, 9);
@@ -17,6 +17,12 @@ final class Scenes {
         crowd.tick(3);
         crowd.save();
         crowd.restore();
+        return crowd;
+    }
+
+    /** The same with a saved state that is another one, three changes to take back, and a fed buffer. */
+    static CrowdSimulator lively() {
+        CrowdSimulator crowd = calm();
         crowd.add(12, 3, -1, 7);
         crowd.setCell(8, 8, 0);
         crowd.tick(1);
@@ -34,6 +40,32 @@ final class Scenes {
         return crowd;
     }
 
+    /** Agent 0 leads 1 and 2, agent 3 leads 4. */
+    static CrowdSimulator formations() {
+        CrowdSimulator crowd = new CrowdSimulator();
+        for (int i = 0; i < 5; i++) {
+            crowd.add(2 * i, 4, -1, 0);
+        }
+        crowd.join(1, 0, 1, 0);
+        crowd.join(2, 0, 0, 1);
+        crowd.join(4, 3, -1, 0);
+        return crowd;
+    }
+
+    /** An agent on (2, 1) and a goal on (3, 2). */
+    static CrowdSimulator inhabited() {
+        CrowdSimulator crowd = Check.onMap("999");
+        crowd.add(2, 1, -1, 0);
+        crowd.setGoal(0, 3, 2);
+        return crowd;
+    }
+
+    static CrowdSimulator inhabitedAndFed(String text) {
+        CrowdSimulator crowd = inhabited();
+        Check.feed(crowd, text);
+        return crowd;
+    }
+
     /** A way of 14 cells in row 0, walled off from the rest. */
     static CrowdSimulator corridor() {
         return Check.onMap("/##############");
@@ -47,6 +79,15 @@ final class Scenes {
             crowd.add(cell % 100, cell / 100, 0, 0);
         }
         crowd.tick(ticks);
+        return crowd;
+    }
+
+    /** Agent 0 comes from the west, on its way to (13, 5), and pushes agent 1, who stands on (5, 5). */
+    static CrowdSimulator crossing(int goalOfPushed) {
+        CrowdSimulator crowd = new CrowdSimulator();
+        crowd.setGoal(0, 13, 5);
+        crowd.add(4, 5, 0, 9);
+        crowd.add(5, 5, goalOfPushed, 0);
         return crowd;
     }
 
