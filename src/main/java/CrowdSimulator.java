@@ -909,7 +909,7 @@ public final class CrowdSimulator {
                 return;
             }
             int blocker = agentOn(neighborOf(here, direction));
-            if (blocker == NONE || isPushedAside(blocker, agent)) {
+            if (blocker == NONE || pushAside(blocker, agent)) {
                 advance(agent, direction);
                 return;
             }
@@ -942,8 +942,11 @@ public final class CrowdSimulator {
             }
         }
 
-        /** Priorities do not change in a tick, so an agent with a lower one has its turn still before it. */
-        private boolean isPushedAside(int agent, int pusher) {
+        /**
+         * Answers whether the agent could be pushed. Priorities do not change in a tick, so an agent
+         * with a lower one has its turn still before it.
+         */
+        private boolean pushAside(int agent, int pusher) {
             if (state.priorities[agent] >= state.priorities[pusher] || isIn(pushed, agent)) {
                 return false;
             }
@@ -1060,28 +1063,29 @@ public final class CrowdSimulator {
         }
     }
 
-    /** The states before the latest changes, in a ring. */
+    /** The states before the latest changes, in a ring; each one is made when it is first needed. */
     private static final class History {
         final State[] states = new State[MAX_UNDO];
         int next;
         int count;
 
-        History() {
-            for (int i = 0; i < MAX_UNDO; i++) {
-                states[i] = new State();
-            }
-        }
-
         void record(State state) {
-            states[next].copyFrom(state);
+            State before = states[next];
+            if (before == null) {
+                before = new State();
+                states[next] = before;
+            }
+            before.copyFrom(state);
             next = (next + 1) % MAX_UNDO;
             count = Math.min(count + 1, MAX_UNDO);
         }
 
         void takeBack(State state) {
-            if (count > 0) {
-                next = (next + MAX_UNDO - 1) % MAX_UNDO;
-                state.copyFrom(states[next]);
+            int latest = (next + MAX_UNDO - 1) % MAX_UNDO;
+            State before = states[latest];
+            if (count > 0 && before != null) {
+                state.copyFrom(before);
+                next = latest;
                 count--;
             }
         }
